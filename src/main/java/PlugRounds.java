@@ -39,12 +39,12 @@ public final class PlugRounds {
 
     private final Row tape;
     private final PlugFile[] files;
+    private final Runner runner;
     private final int[] options;
     private final Processors processors;
     private final Units units;
     private final Messages messages;
     private final Resources resources;
-    private final Runner runner;
     private boolean passes;
 
     public PlugRounds() {
@@ -53,12 +53,12 @@ public final class PlugRounds {
         for (int i = 0; i < files.length; i++) {
             files[i] = new PlugFile();
         }
-        options = new int[OPTIONS];
-        processors = new Processors();
-        units = new Units();
-        messages = new Messages();
-        resources = new Resources();
-        runner = new Runner(processors, units, messages, resources, options);
+        runner = new Runner();
+        options = runner.options;
+        processors = runner.processors;
+        units = runner.units;
+        messages = runner.messages;
+        resources = runner.resources;
     }
 
     public int feed(int n, long w) {
@@ -341,8 +341,8 @@ public final class PlugRounds {
 
         void become(Row other) {
             empty();
-            for (int i = 0; i < other.length; i++) {
-                append(other.bytes[i]);
+            for (int i = 0; i < other.size(); i++) {
+                append(other.at(i));
             }
         }
 
@@ -532,10 +532,11 @@ public final class PlugRounds {
         }
 
         int enlist(int file, Row row) {
-            if (count >= all.length) {
+            Processor it = count < all.length ? all[count] : null;
+            if (it == null) {
                 return FULL;
             }
-            all[count].become(file, row);
+            it.become(file, row);
             count++;
             return count - 1;
         }
@@ -545,14 +546,20 @@ public final class PlugRounds {
         }
 
         void beginRun() {
-            for (int i = 0; i < all.length; i++) {
-                all[i].beginRun();
+            for (int i = 0; i < count; i++) {
+                Processor it = at(i);
+                if (it != null) {
+                    it.beginRun();
+                }
             }
         }
 
         void goBack() {
-            for (int i = 0; i < all.length; i++) {
-                all[i].goBack();
+            for (int i = 0; i < count; i++) {
+                Processor it = at(i);
+                if (it != null) {
+                    it.goBack();
+                }
             }
         }
     }
@@ -728,20 +735,26 @@ public final class PlugRounds {
         }
 
         void emptyAll() {
-            for (int i = 0; i < rows.length; i++) {
-                rows[i].empty();
+            for (Row row : rows) {
+                if (row != null) {
+                    row.empty();
+                }
             }
         }
 
         void keep() {
-            for (int i = 0; i < rows.length; i++) {
-                rows[i].keep();
+            for (Row row : rows) {
+                if (row != null) {
+                    row.keep();
+                }
             }
         }
 
         void goBack() {
-            for (int i = 0; i < rows.length; i++) {
-                rows[i].goBack();
+            for (Row row : rows) {
+                if (row != null) {
+                    row.goBack();
+                }
             }
         }
     }
@@ -764,12 +777,12 @@ public final class PlugRounds {
         private int met;
         private int round;
 
-        Runner(Processors processors, Units units, Messages messages, Resources resources, int[] options) {
-            this.processors = processors;
-            this.units = units;
-            this.messages = messages;
-            this.resources = resources;
-            this.options = options;
+        Runner() {
+            processors = new Processors();
+            units = new Units();
+            messages = new Messages();
+            resources = new Resources();
+            options = new int[OPTIONS];
             claimants = new int[MARKS];
         }
 

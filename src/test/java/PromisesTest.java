@@ -734,7 +734,7 @@ public final class PromisesTest {
 
     private static void promise14GoesBack() {
         PlugRounds x = new PlugRounds();
-        Check.plug(x, 0, ADD, 7, 0, 0, WRITE, 1, 9, 0, MAKE, 40, 2, 1, TELL, 5, 1, 2, THROW, 1, 0, 3, WORK, 255, 255,
+        Check.plug(x, 0, ADD, 7, 0, 0, WRITE, 0, 8, 0, WRITE, 3, 9, 0, MAKE, 40, 2, 1, TELL, 5, 1, 2, THROW, 1, 0, 3, WORK, 255, 255,
             END, MAKE, 41, 0, END, ADD, 1, 0);
         x.unit(1, 1);
         x.unit(2, 0);
@@ -746,7 +746,7 @@ public final class PromisesTest {
         x.marks(1, 9);
         goesBack(x, 100, SPENT);
         x.marks(1, 1);
-        goesBack(x, 2, SPENT);
+        goesBack(x, 4, SPENT);
         x.clear();
         Check.plug(x, 0, MAKE, 9, 2, 1, TELL, 3, 0, 1, THROW, 0, 0);
         x.unit(1, 1);
@@ -861,6 +861,8 @@ public final class PromisesTest {
             due("17 processor " + p, x.told(p, 0), UNKNOWN);
             due("17 UNKNOWN is ahead of OUTSIDE", x.told(p, 4), UNKNOWN);
         }
+        due("17 REFUSED", x.run(100), REFUSED);
+        due("17 STOPPED ahead of clear", x.told(0, 2), 1);
         x.clear();
         due("17 none behind clear", x.told(0, 0), UNKNOWN);
         x.define(3);
@@ -940,7 +942,7 @@ public final class PromisesTest {
     private static void promise21Clear() {
         PlugRounds x = new PlugRounds();
         due("21 of nothing", x.clear(), 0);
-        Check.plug(x, 0, MAKE, 9, 2, 0, WRITE, 1, 3, 0, TELL, 1, 1);
+        Check.plug(x, 0, MAKE, 9, 2, 0, WRITE, 1, 3, 0, TELL, 1, 1, 0, WRITE, 0, 3, 0, WRITE, 3, 3);
         x.unit(1, 1);
         x.run(100);
         x.option(2, 5);
@@ -950,7 +952,7 @@ public final class PromisesTest {
         x.define(0);
         x.feed(2, 7);
         due("21 how many UNITS", x.clear(), 2);
-        aboutIs(x, new int[] {0, 0, 0, 0, 3, 2, 1, OUTSIDE, OUTSIDE, OUTSIDE, 0, 0, 0, 0});
+        aboutIs(x, new int[] {0, 0, 0, 0, 5, 2, 1, OUTSIDE, OUTSIDE, OUTSIDE, 0, 0, 0, 0});
         due("21 no UNITS", x.mirror(0, 0), UNKNOWN);
         due("21 no PROCESSORS", x.told(0, 0), UNKNOWN);
         due("21 no MESSAGES", x.message(0, 0), UNKNOWN);
