@@ -1,5 +1,10 @@
-/** What the tests share: counting wrong answers, and writing FILES. */
-final class Check {
+import java.util.function.IntUnaryOperator;
+
+/** What the tests share: counting wrong answers, and writing FILES. Tests extend it for its short names. */
+class Check {
+    static final int NONE = -1, UNKNOWN = -101, OUTSIDE = -102, STATE = -103, FULL = -104;
+    static final int FAILED = -31, GONE = -32, SPENT = -11, REFUSED = -12;
+    static final int MIN = Integer.MIN_VALUE, MAX = Integer.MAX_VALUE;
     static final int END = 15;
     static final int CLAIM = 0, MAKE = 1, TELL = 2, ADD = 3, THROW = 4;
     static final int WORK = 5, CHANGE = 6, WRITE = 7, SKIP = 8, ASK = 9;
@@ -10,7 +15,8 @@ final class Check {
     private static int wrong = 0;
     private static int looked = 0;
 
-    private Check() {
+    /** There are no objects of it: all is static. */
+    Check() {
     }
 
     static void due(String call, int got, int want) {
@@ -18,6 +24,13 @@ final class Check {
         if (got != want) {
             wrong++;
             System.out.println(call + " answered " + got + ", due is " + want);
+        }
+    }
+
+    /** The same answer is due for each of these arguments. */
+    static void dueEach(String call, int want, IntUnaryOperator answer, int... arguments) {
+        for (int v : arguments) {
+            due(call + "(" + v + ")", answer.applyAsInt(v), want);
         }
     }
 
@@ -83,9 +96,15 @@ final class Check {
         return bytes;
     }
 
+    /** Eight bytes a call, as an object answers 512 calls and no more. */
     static void feedAll(PlugRounds x, int... bytes) {
-        for (int b : bytes) {
-            x.feed(1, b);
+        for (int from = 0; from < bytes.length; from += 8) {
+            int n = Math.min(8, bytes.length - from);
+            long w = 0;
+            for (int i = from; i < from + n; i++) {
+                w = w << 8 | bytes[i];
+            }
+            x.feed(n, w);
         }
     }
 
@@ -98,6 +117,64 @@ final class Check {
     static int plug(PlugRounds x, int... parts) {
         lay(x, 5, rules(parts));
         return x.define(5);
+    }
+
+    /** A new object with one PROCESSOR of these RULES. */
+    static PlugRounds with(int... parts) {
+        PlugRounds x = new PlugRounds();
+        due("define of the test's FILE", plug(x, parts), 0);
+        return x;
+    }
+
+    /** The same RULE n times. */
+    static int[] times(int n, int... rule) {
+        int[] parts = new int[n * rule.length];
+        for (int i = 0; i < parts.length; i++) {
+            parts[i] = rule[i % rule.length];
+        }
+        return parts;
+    }
+
+    static int[] join(int[] first, int... second) {
+        int[] both = java.util.Arrays.copyOf(first, first.length + second.length);
+        System.arraycopy(second, 0, both, first.length, second.length);
+        return both;
+    }
+
+    /** UNITS of the NAMES from .. to, all with the same MARKS. */
+    static void units(PlugRounds x, int from, int to, int marks) {
+        for (int name = from; name <= to; name++) {
+            x.unit(name, marks);
+        }
+    }
+
+    /** All bytes of a RESOURCE, and none behind them. */
+    static void dueBytes(String when, PlugRounds x, int r, int... want) {
+        due(when + ": bytes of RESOURCE " + r, x.about(10 + r), want.length);
+        for (int i = 0; i < want.length; i++) {
+            due(when + ": resource(" + r + ", " + i + ")", resource(x, r, i), want[i]);
+        }
+        due(when + ": behind RESOURCE " + r, resource(x, r, want.length), AIOOBE);
+    }
+
+    /** All bytes of a FILE (told 0 .. 255 here), and none behind them. */
+    static void dueOctets(String when, PlugRounds x, int file, int... want) {
+        for (int i = 0; i < want.length; i++) {
+            due(when + ": octet(" + file + ", " + i + ")", octet(x, file, i), (byte) want[i]);
+        }
+        due(when + ": behind FILE " + file, octet(x, file, want.length), AIOOBE);
+    }
+
+    /** All MESSAGES, each: what, PROCESSOR, UNIT's NAME, a, ROUND. */
+    static void dueMessages(PlugRounds x, int[]... want) {
+        due("how many MESSAGES", x.about(2), want.length);
+        for (int i = 0; i < want.length; i++) {
+            dueMessage(x, i, want[i][0], want[i][1], want[i][2], want[i][3], want[i][4]);
+        }
+    }
+
+    static int[] row(int... parts) {
+        return parts;
     }
 
     static void dueMessage(PlugRounds x, int i, int what, int processor, int name, int a, int round) {

@@ -50,6 +50,7 @@ public final class FaceTest {
             + (thrown.isEmpty() ? "" : " throws " + thrown);
     }
 
+    // The public face: each method as it is told there, with what it throws, and no other; LANGUAGE.md, rule 1
     private static void methods() {
         Set<String> open = new TreeSet<>();
         Set<String> publicNames = new HashSet<>();
@@ -69,6 +70,7 @@ public final class FaceTest {
         Check.holds("private methods with public names: " + privateNames, privateNames.isEmpty());
     }
 
+    // The public face: "public static final int NONE = -1, UNKNOWN = -101, OUTSIDE = -102, STATE = -103, FULL = -104;"
     private static void constants() {
         Set<String> open = new TreeSet<>();
         for (Field f : PlugRounds.class.getDeclaredFields()) {
@@ -88,6 +90,7 @@ public final class FaceTest {
         Check.due("FULL", PlugRounds.FULL, -104);
     }
 
+    // The public face: "public final class PlugRounds", "public PlugRounds();"
     private static void constructors() {
         Constructor<?>[] all = PlugRounds.class.getDeclaredConstructors();
         Check.due("constructors", all.length, 1);
@@ -97,6 +100,7 @@ public final class FaceTest {
         Check.holds("the class is public and final", Modifier.isPublic(how) && Modifier.isFinal(how));
     }
 
+    // LANGUAGE.md, rules 1, 2 and 11: classes inside are static and not open, some twelve, of some twenty fields
     private static void classesInside() {
         Class<?>[] inside = PlugRounds.class.getDeclaredClasses();
         Check.holds("some twelve classes at most", inside.length < 12);
@@ -108,6 +112,7 @@ public final class FaceTest {
         }
     }
 
+    // LANGUAGE.md, rules 2, 3, 4, 5, 6 and 13: words that the program has no need of
     private static void source() throws IOException {
         Path path = Path.of("src/main/java/PlugRounds.java");
         String text = new String(Files.readAllBytes(path), StandardCharsets.ISO_8859_1);
