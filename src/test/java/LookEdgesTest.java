@@ -21,6 +21,7 @@ public final class LookEdgesTest extends Check {
         messagesAreKeptOverRuns();
         messageAtTheEnd();
         messageKeepsItsName();
+        messageOfAUnitThatIsGone();
         messageOfFirstAndLastProcessor();
     }
 
@@ -183,6 +184,17 @@ public final class LookEdgesTest extends Check {
         x.unit(0, 1);
         x.run(9);
         dueMessages(x, row(0, 0, 63, 1, 1), row(0, 0, 0, 1, 1));
+    }
+
+    // Promise 16: "UNIT's NAME (2; NONE)"; Terms 2: "MESSAGES stay": also of a UNIT that went with its RUN, whoever has its
+    // number then
+    private static void messageOfAUnitThatIsGone() {
+        PlugRounds x = with(0, MAKE, 9, 2, 1, TELL, 1, 0, 1, THROW, 2, 0);
+        x.unit(0, 1);
+        due("16 REFUSED", x.run(9), REFUSED);
+        dueMessages(x, row(0, 0, 9, 1, 2), row(5, 0, 9, 2, 2));
+        due("16 another has its number", x.unit(20, 0), 1);
+        dueMessages(x, row(0, 0, 9, 1, 2), row(5, 0, 9, 2, 2));
     }
 
     // Promise 16: "PROCESSOR (1)": from 0 to 5

@@ -198,18 +198,20 @@ public final class RunEdgesTest extends Check {
 
     // Promise 14: "up to n STEPS (0 .. 100000)": 100000 are done, 100001 are not
     private static void runOfAllStepsThatThereCanBe() {
-        // 1 + 50000, 1 + 49980, 1 + 17 STEPS, and one more if MARK 1 is there, too
-        PlugRounds x = with(0, WORK, 200, 250, 0, WORK, 196, 255, 0, WORK, 17, 1, 1, TELL, 0, 0);
+        // 1 + 50000, 1 + 49980, 1 + 16 STEPS and 1 of TELL; one more if MARK 1 is there, too
+        PlugRounds x = with(0, WORK, 200, 250, 0, WORK, 196, 255, 0, WORK, 16, 1, 0, TELL, 7, 0, 1, TELL, 8, 0);
         x.unit(0, 1);
         due("14 run(99999) of 100000", x.run(99999), SPENT);
-        due("14 STEPS of it", x.about(4), 99983);
+        due("14 STEPS of it", x.about(4), 99999);
+        dueMessages(x);
         due("14 run(100000) of 100000", x.run(100000), 1);
         due("14 STEPS of all", x.about(4), 100000);
         due("14 STEPS of the PROCESSOR", x.told(0, 3), 100000);
+        dueMessages(x, row(0, 0, 0, 7, 1));
         x.marks(0, 3);
         due("14 run(100000) of 100001", x.run(100000), SPENT);
         due("14 STEPS of that", x.about(4), 100000);
-        due("14 no MESSAGE", x.about(2), 0);
+        dueMessages(x, row(0, 0, 0, 7, 1), row(0, 0, 0, 7, 1));
     }
 
     // Terms 2: "(if ROUND 1 had none, there is no END)": without UNITS
