@@ -6,7 +6,7 @@ import java.util.function.ToIntFunction;
  * that is in use and on one that is full, and then all of it is looked at beside a twin that was spared the call.
  */
 public final class RefusalsTest extends Check {
-    private static final int NEW = 0, USED = 1, FILLED = 2;
+    static final int NEW = 0, USED = 1, FILLED = 2;
     private static final String[] STATES = {"new", "in use", "full"};
     private static final int PARTS = 9;
 
@@ -47,7 +47,7 @@ public final class RefusalsTest extends Check {
         refuses(call, answer.applyAsInt(object(state)), answer);
     }
 
-    private static PlugRounds object(int state) {
+    static PlugRounds object(int state) {
         return state == NEW ? new PlugRounds() : state == USED ? used() : filled();
     }
 
